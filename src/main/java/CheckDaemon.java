@@ -523,7 +523,7 @@ public final class CheckDaemon {
             return expression.reads.has(symbol);
         }
 
-        SymbolSet read() {
+        SymbolSet symbolsRead() {
             return expression.reads;
         }
 
@@ -849,7 +849,7 @@ public final class CheckDaemon {
                 Line line = lines[place];
                 int symbol = line == null ? NONE : line.defined();
                 if (line != null && symbol >= 0 && symbol < ALL_SYMBOLS) {
-                    hangs[symbol].addAll(line.read());
+                    hangs[symbol].addAll(line.symbolsRead());
                 }
             }
         }
@@ -874,14 +874,14 @@ public final class CheckDaemon {
                 if (hangs[symbol].has(symbol)) {
                     selfCount++;
                 }
-                int lower = findLeast(k, symbol);
                 // each circle of two or more has just one second member
-                if (lower == 1) {
+                if (findLeast(k, symbol) == 1) {
                     circleCount++;
                 }
             }
         }
 
+        /** Answers how many members of its circle are less than the symbol. */
         private int findLeast(int k, int symbol) {
             int lower = 0;
             least[symbol] = symbol;
@@ -987,7 +987,7 @@ public final class CheckDaemon {
          * grow again from nothing; lines not looked at say what they said.
          */
         private void restartTypes() {
-            for (int k = 0; k < touchedSize; k++) {
+            for (int k = 0; k < touchedSize && k < ALL_SYMBOLS; k++) {
                 symbols.restart(touchedInOrder[k]);
             }
             for (int place = 0; place < ALL_PLACES; place++) {

@@ -285,6 +285,15 @@ public final class PromiseTests {
         told("A:i=(i+s)+s[]+i|i[]+n", 6, 4, 11, 3, 17, 3);
         told("A:i=s+n+(i|[i])[]", 5, 4, 15, 3);
         told("=(s|n|i)+s", 8, 4);
+        told("=?[]+(?|[?])[]");
+        told("=n+n", 2, 4);
+        told("=(i|n)+i", 6, 4);
+        told("=s+s+s");
+        told("=i|f+f|i");
+        told("=[i|n]+[s]");
+        told("=[i]+([i]|[[i]])", 4, 4);
+        told("=[i]+(?|s)", 4, 4);
+        told("=n+?+?+n");
         told("=(s|n|i|[i])[]+?", 12, 3);
         told("A:i= n[] + s", 6, 3);
     }
