@@ -7,23 +7,24 @@ public final class PromiseTests {
     private static final int ANY = 16;
 
     public static void main(String[] args) {
-        newObject();
-        type();
-        erase();
-        put();
-        putLooks();
-        drop();
-        undo();
-        undoAtMostSixteen();
-        symbol();
-        symbolCircles();
-        line();
-        diagnostic();
-        count();
-        reading();
-        types();
-        declared();
-        growing();
+        Due.each(
+            PromiseTests::newObject,
+            PromiseTests::type,
+            PromiseTests::erase,
+            PromiseTests::put,
+            PromiseTests::putLooks,
+            PromiseTests::drop,
+            PromiseTests::undo,
+            PromiseTests::undoAtMostSixteen,
+            PromiseTests::symbol,
+            PromiseTests::symbolCircles,
+            PromiseTests::line,
+            PromiseTests::diagnostic,
+            PromiseTests::count,
+            PromiseTests::reading,
+            PromiseTests::types,
+            PromiseTests::declared,
+            PromiseTests::growing);
         Due.end();
     }
 
@@ -262,40 +263,25 @@ public final class PromiseTests {
         Due.noArgument("8 what 5", () -> x.line(0, 0, 5));
     }
 
-    private static void told(String text, int... placesAndCodes) {
-        CheckDaemon x = new CheckDaemon();
-        Due.put(x, 6, 5, text);
-        int size = placesAndCodes.length / 2;
-        Due.due("9 " + text + ": how many", size, () -> x.line(6, 5, 3));
-        for (int each = 0; each < size; each++) {
-            int k = each;
-            Due.due("9 " + text + ": module", 6, () -> x.diagnostic(k, 0));
-            Due.due("9 " + text + ": line", 5, () -> x.diagnostic(k, 1));
-            Due.due("9 " + text + ": place " + k, placesAndCodes[2 * k], () -> x.diagnostic(k, 2));
-            Due.due("9 " + text + ": code " + k, placesAndCodes[2 * k + 1], () -> x.diagnostic(k, 3));
-        }
-        Due.due("9 " + text + ": no more", -1, () -> x.diagnostic(size, 0));
-    }
-
     private static void diagnostic() {
-        told("=X + 0.X|X", 1, 2, 5, 2, 9, 2);
-        told("= 0 . X", 2, 2);
-        told("A:i=(i+s)|[n]+[i]", 3, 5, 6, 4);
-        told("A:i=[n]+(i+s)", 10, 4);
-        told("A:i=(i+s)+s[]+i|i[]+n", 6, 4, 11, 3, 17, 3);
-        told("A:i=s+n+(i|[i])[]", 5, 4, 15, 3);
-        told("=(s|n|i)+s", 8, 4);
-        told("=?[]+(?|[?])[]");
-        told("=n+n", 2, 4);
-        told("=(i|n)+i", 6, 4);
-        told("=s+s+s");
-        told("=i|f+f|i");
-        told("=[i|n]+[s]");
-        told("=[i]+([i]|[[i]])", 4, 4);
-        told("=[i]+(?|s)", 4, 4);
-        told("=n+?+?+n");
-        told("=(s|n|i|[i])[]+?", 12, 3);
-        told("A:i= n[] + s", 6, 3);
+        Due.tells("=X + 0.X|X", 1, 2, 5, 2, 9, 2);
+        Due.tells("= 0 . X", 2, 2);
+        Due.tells("A:i=(i+s)|[n]+[i]", 3, 5, 6, 4);
+        Due.tells("A:i=[n]+(i+s)", 10, 4);
+        Due.tells("A:i=(i+s)+s[]+i|i[]+n", 6, 4, 11, 3, 17, 3);
+        Due.tells("A:i=s+n+(i|[i])[]", 5, 4, 15, 3);
+        Due.tells("=(s|n|i)+s", 8, 4);
+        Due.tells("=?[]+(?|[?])[]");
+        Due.tells("=n+n", 2, 4);
+        Due.tells("=(i|n)+i", 6, 4);
+        Due.tells("=s+s+s");
+        Due.tells("=i|f+f|i");
+        Due.tells("=[i|n]+[s]");
+        Due.tells("=[i]+([i]|[[i]])", 4, 4);
+        Due.tells("=[i]+(?|s)", 4, 4);
+        Due.tells("=n+?+?+n");
+        Due.tells("=(s|n|i|[i])[]+?", 12, 3);
+        Due.tells("A:i= n[] + s", 6, 3);
     }
 
     private static void count() {
@@ -328,120 +314,110 @@ public final class PromiseTests {
         Due.due("10 but hangs on itself", 1, () -> x.count(3));
     }
 
-    private static void wrongAt(String text, int place) {
-        told(text, place, 1);
-    }
-
     private static void reading() {
-        wrongAt("A", 1);
-        wrongAt("A  ", 3);
-        wrongAt("a=i", 0);
-        wrongAt("  i", 2);
-        wrongAt(":i=i", 0);
-        wrongAt("A:", 2);
-        wrongAt("A:=i", 2);
-        wrongAt("A:A=i", 2);
-        wrongAt("A:i[=i", 4);
-        wrongAt("A:i[][][][]=i", 9);
-        wrongAt("A:i|=i", 4);
-        wrongAt("A:i!=i", 3);
-        wrongAt("AB=i", 1);
-        wrongAt("A=", 2);
-        wrongAt("A==i", 2);
-        wrongAt("=i i", 3);
-        wrongAt("=i+", 3);
-        wrongAt("=i||i", 3);
-        wrongAt("=[]", 2);
-        wrongAt("=()", 2);
-        wrongAt("=(i]", 3);
-        wrongAt("=[i)", 3);
-        wrongAt("=[i", 3);
-        wrongAt("=i)", 2);
-        wrongAt("=i[i]", 3);
-        wrongAt("=i&", 3);
-        wrongAt("=i&?", 3);
-        wrongAt("=i&A", 3);
-        wrongAt("=8.A", 1);
-        wrongAt("=0A", 2);
-        wrongAt("=0.i", 3);
-        wrongAt("=0.  ", 5);
-        wrongAt("=i\t", 2);
-        wrongAt("=[([([([([([(i", 14);
-        wrongAt("=[([([([([([([i", 13);
-        wrongAt("=(((((((((((([i", 13);
-        told("=[([([([([([(i[])])])])])])]", 14, 3);
-        told("A:i[][][]|?=i");
-        told(" = i ! & f [ ] ");
-        wrongAt("=i|i|i|i|i|i|i|i|i|i|i|i|i|i|i|i|i|i|i|i|i|i|i|i|i|i|i|i|i|+", 59);
-        wrongAt("=i|i|i|i|i|i|i|i|i|i|i|i|i|i|i|i|i|i|i|i|i|i|i|i|i|i|i|i|ii|", 58);
-        wrongAt("=i|i|i|i|i|i|i|i|i|i|i|i|i|i|i|i|i|i|i|i|i|i|i|i|i|i|i|i|i| ", 60);
-    }
-
-    private static void typeOf(String expression, int want) {
-        CheckDaemon x = new CheckDaemon();
-        Due.put(x, 0, 0, "=" + expression);
-        Due.due("types: " + expression, want, () -> x.line(0, 0, 2));
+        Due.cannotGoOn("A", 1);
+        Due.cannotGoOn("A  ", 3);
+        Due.cannotGoOn("a=i", 0);
+        Due.cannotGoOn("  i", 2);
+        Due.cannotGoOn(":i=i", 0);
+        Due.cannotGoOn("A:", 2);
+        Due.cannotGoOn("A:=i", 2);
+        Due.cannotGoOn("A:A=i", 2);
+        Due.cannotGoOn("A:i[=i", 4);
+        Due.cannotGoOn("A:i[][][][]=i", 9);
+        Due.cannotGoOn("A:i|=i", 4);
+        Due.cannotGoOn("A:i!=i", 3);
+        Due.cannotGoOn("AB=i", 1);
+        Due.cannotGoOn("A=", 2);
+        Due.cannotGoOn("A==i", 2);
+        Due.cannotGoOn("=i i", 3);
+        Due.cannotGoOn("=i+", 3);
+        Due.cannotGoOn("=i||i", 3);
+        Due.cannotGoOn("=[]", 2);
+        Due.cannotGoOn("=()", 2);
+        Due.cannotGoOn("=(i]", 3);
+        Due.cannotGoOn("=[i)", 3);
+        Due.cannotGoOn("=[i", 3);
+        Due.cannotGoOn("=i)", 2);
+        Due.cannotGoOn("=i[i]", 3);
+        Due.cannotGoOn("=i&", 3);
+        Due.cannotGoOn("=i&?", 3);
+        Due.cannotGoOn("=i&A", 3);
+        Due.cannotGoOn("=8.A", 1);
+        Due.cannotGoOn("=0A", 2);
+        Due.cannotGoOn("=0.i", 3);
+        Due.cannotGoOn("=0.  ", 5);
+        Due.cannotGoOn("=i\t", 2);
+        Due.cannotGoOn("=[([([([([([(i", 14);
+        Due.cannotGoOn("=[([([([([([([i", 13);
+        Due.cannotGoOn("=(((((((((((([i", 13);
+        Due.tells("=[([([([([([(i[])])])])])])]", 14, 3);
+        Due.tells("A:i[][][]|?=i");
+        Due.tells(" = i ! & f [ ] ");
+        Due.cannotGoOn("=i|i|i|i|i|i|i|i|i|i|i|i|i|i|i|i|i|i|i|i|i|i|i|i|i|i|i|i|i|+", 59);
+        Due.cannotGoOn("=i|i|i|i|i|i|i|i|i|i|i|i|i|i|i|i|i|i|i|i|i|i|i|i|i|i|i|i|ii|", 58);
+        Due.cannotGoOn("=i|i|i|i|i|i|i|i|i|i|i|i|i|i|i|i|i|i|i|i|i|i|i|i|i|i|i|i|i| ", 60);
     }
 
     private static void types() {
-        typeOf("i", I);
-        typeOf("f", F);
-        typeOf("s", S);
-        typeOf("n", N);
-        typeOf("?", ANY);
-        typeOf("U", ANY);
-        typeOf("[i|n]", (I | N) << 5);
-        typeOf("[[[s]]]", S << 15);
-        typeOf("[[[[s]]]]", ANY << 15);
-        typeOf("[[[[?]]]]", ANY << 15);
-        typeOf("[[[[[i]|s]]]]", ANY << 15);
-        typeOf("(i|n|[n])!", I | N << 5);
-        typeOf("([i]|[[s]]|?|n)[]", I | S << 5 | ANY);
-        typeOf("[?][]", ANY);
-        typeOf("[[?]][]", ANY << 5);
-        typeOf("i[]", 0);
-        typeOf("(i|s)&s", S);
-        typeOf("i&s", 0);
-        typeOf("?&n", N);
-        typeOf("[s]&s", 0);
-        typeOf("[?]&s", 0);
-        typeOf("i+i", I);
-        typeOf("i+f", F);
-        typeOf("f+i", F);
-        typeOf("f+f", F);
-        typeOf("s+s", S);
-        typeOf("n+n", 0);
-        typeOf("i+s", 0);
-        typeOf("(i|f)+(i|s)", I | F);
-        typeOf("?+n", ANY);
-        typeOf("[i]+?", ANY);
-        typeOf("i[]+?", 0);
-        typeOf("[i]+[s]", (I | S) << 5);
-        typeOf("[?]+[s]", (ANY | S) << 5);
-        typeOf("[i]+[[s]]", 0);
-        typeOf("[i]+i", 0);
-        typeOf("[[i]]+([[s]]|[n])", (I | S) << 10);
-        typeOf("i+i|s", I);
-        typeOf("i|s+i", I);
-        typeOf("(i+i)|s", I | S);
-        typeOf("[s]+[i]+s", 0);
-        typeOf("i+s+?", 0);
-        typeOf("i|n!", I);
-        typeOf("n|i!", I | N);
+        Due.typeOf("i", I);
+        Due.typeOf("f", F);
+        Due.typeOf("s", S);
+        Due.typeOf("n", N);
+        Due.typeOf("?", ANY);
+        Due.typeOf("U", ANY);
+        Due.typeOf("[i|n]", (I | N) << 5);
+        Due.typeOf("[[[s]]]", S << 15);
+        Due.typeOf("[[[[s]]]]", ANY << 15);
+        Due.typeOf("[[[[?]]]]", ANY << 15);
+        Due.typeOf("[[[[[i]|s]]]]", ANY << 15);
+        Due.typeOf("(i|n|[n])!", I | N << 5);
+        Due.typeOf("([i]|[[s]]|?|n)[]", I | S << 5 | ANY);
+        Due.typeOf("[?][]", ANY);
+        Due.typeOf("[[?]][]", ANY << 5);
+        Due.typeOf("i[]", 0);
+        Due.typeOf("(i|s)&s", S);
+        Due.typeOf("i&s", 0);
+        Due.typeOf("?&n", N);
+        Due.typeOf("[s]&s", 0);
+        Due.typeOf("[?]&s", 0);
+        Due.typeOf("i+i", I);
+        Due.typeOf("i+f", F);
+        Due.typeOf("f+i", F);
+        Due.typeOf("f+f", F);
+        Due.typeOf("s+s", S);
+        Due.typeOf("n+n", 0);
+        Due.typeOf("i+s", 0);
+        Due.typeOf("(i|f)+(i|s)", I | F);
+        Due.typeOf("?+n", ANY);
+        Due.typeOf("[i]+?", ANY);
+        Due.typeOf("i[]+?", 0);
+        Due.typeOf("[i]+[s]", (I | S) << 5);
+        Due.typeOf("[?]+[s]", (ANY | S) << 5);
+        Due.typeOf("[i]+[[s]]", 0);
+        Due.typeOf("[i]+i", 0);
+        Due.typeOf("[[i]]+([[s]]|[n])", (I | S) << 10);
+        Due.typeOf("i+i|s", I);
+        Due.typeOf("i|s+i", I);
+        Due.typeOf("(i+i)|s", I | S);
+        Due.typeOf("[s]+[i]+s", 0);
+        Due.typeOf("i+s+?", 0);
+        Due.typeOf("i|n!", I);
+        Due.typeOf("n|i!", I | N);
     }
 
     private static void declared() {
-        told("A:i=s", 3, 5);
-        told("A:i=?");
-        told("A:i=?|n", 3, 5);
-        told("A:i=n[]", 5, 3);
-        told("A:?=s|[n]");
-        told("A:s|? = i");
-        told("A : [] = i", 4, 1);
-        told("A:?[] = i", 6, 5);
-        told("A:i=[?]", 3, 5);
-        told("A:i|s[]=i|[s]");
-        told("A:i|s[]=[i]", 7, 5);
+        Due.tells("A:i=s", 3, 5);
+        Due.tells("A:i=?");
+        Due.tells("A:i=?|n", 3, 5);
+        Due.tells("A:i=n[]", 5, 3);
+        Due.tells("A:?=s|[n]");
+        Due.tells("A:s|? = i");
+        Due.tells("A : [] = i", 4, 1);
+        Due.tells("A:?[] = i", 6, 5);
+        Due.tells("A:i=[?]", 3, 5);
+        Due.tells("A:i|s[]=i|[s]");
+        Due.tells("A:i|s[]=[i]", 7, 5);
     }
 
     private static void growing() {
