@@ -1,12 +1,17 @@
+import java.util.Arrays;
 import java.util.Random;
 
 /**
  * Many runs of calls by chance (of written seeds, so always the same ones), each
- * call's answer held against PlainChecker's: promises 1 to 10 together.
+ * call's answer held against PlainChecker's: promises 1 to 10 together. No object
+ * gets more calls than the 512 whose answers the document promises.
  */
 public final class AgainstPlainChecker {
-    private static final int RUNS = 400;
+    private static final int RUNS = 1000;
     private static final int CALLS = 512;
+    /** A line of 60 characters takes three calls of type, and its put one. */
+    private static final int DEAREST_ACT = 4;
+    private static final int LAST_QUESTIONS = 200;
 
     private final Random chance;
     private final CheckDaemon x = new CheckDaemon();
@@ -15,6 +20,7 @@ public final class AgainstPlainChecker {
     private final int letters;
     private final boolean careful;
     private final StringBuilder story = new StringBuilder();
+    private int calls = 0;
 
     private AgainstPlainChecker(int seed) {
         chance = new Random(seed);
@@ -30,57 +36,63 @@ public final class AgainstPlainChecker {
         Due.end();
     }
 
+    /** Half of the runs are edited to their last call, the others are asked of all that stands. */
     private void run(int seed) {
-        int calls = 0;
-        while (calls < CALLS && Due.wrongCount() == 0) {
-            calls += act();
+        int acts = seed % 2 == 0 ? CALLS : CALLS - LAST_QUESTIONS;
+        while (calls + DEAREST_ACT <= acts && Due.wrongCount() == 0) {
+            act();
         }
-        askAll();
+        while (calls < acts && Due.wrongCount() == 0) {
+            ask();
+        }
+        askInOrder(seed / 2 * LAST_QUESTIONS);
         if (Due.wrongCount() != 0) {
             System.out.println("seed " + seed + ":\n" + story);
         }
+        Due.due("calls of a run", CALLS, calls);
     }
 
-    private int act() {
+    private void act() {
         int kind = chance.nextInt(100);
         if (kind < 30) {
-            return typeAndPut();
-        }
-        if (kind < 38) {
+            typeAndPut();
+        } else if (kind < 38) {
             same("undo", x::undo, plain::undo);
-            return 1;
-        }
-        if (kind == 38) {
+        } else if (kind == 38) {
             int module = number(modules);
             same("drop " + module, () -> x.drop(module), () -> plain.drop(module));
-            return 1;
-        }
-        if (kind == 39) {
+        } else if (kind == 39) {
             same("erase", x::erase, plain::erase);
-            return 1;
+        } else if (kind == 40) {
+            typeAnything();
+        } else {
+            ask();
         }
-        ask();
-        return 1;
     }
 
     /** Now and then a number that is out of bounds. */
     private int number(int bound) {
-        int kind = chance.nextInt(60);
-        return kind == 0 ? -1 : kind == 1 ? bound + chance.nextInt(9) : chance.nextInt(bound);
+        int kind = chance.nextInt(80);
+        return kind == 0 ? -1 : kind == 1 ? bound + chance.nextInt(9) : kind == 2 ? chance.nextInt() : chance.nextInt(bound);
     }
 
-    private int typeAndPut() {
+    private void typeAnything() {
+        int[] n = new int[5];
+        for (int k = 0; k < n.length; k++) {
+            n[k] = chance.nextInt() & (chance.nextBoolean() ? -1 : 255 << 8 * chance.nextInt(4));
+        }
+        same("type " + Arrays.toString(n), () -> x.type(n[0], n[1], n[2], n[3], n[4]), () -> plain.type(n));
+    }
+
+    private void typeAndPut() {
         String text = chance.nextInt(40) == 0 ? " ".repeat(chance.nextInt(4)) : lineByChance();
-        int calls = 0;
         for (int from = 0; from < text.length(); from += 20) {
             int[] n = Due.packed(text.substring(from, Math.min(text.length(), from + 20)));
             same("type " + text, () -> x.type(n[0], n[1], n[2], n[3], n[4]), () -> plain.type(n));
-            calls++;
         }
         int module = number(modules);
         int line = number(12);
         same("put " + module + " " + line, () -> x.put(module, line), () -> plain.put(module, line));
-        return calls + 1;
     }
 
     private void ask() {
@@ -105,29 +117,33 @@ public final class AgainstPlainChecker {
         }
     }
 
-    private void askAll() {
-        for (int what = 0; what < 6; what++) {
-            int w = what;
-            same("count " + w, () -> x.count(w), () -> plain.count(w));
-            for (int number = 0; number < 8 * 26 && w < 4; number++) {
-                int n = number;
-                same("symbol " + n + " " + w, () -> x.symbol(n / 26, n % 26, w), () -> plain.symbol(n / 26, n % 26, w));
-            }
-            for (int place = 0; place < 96 && w < 5; place++) {
-                int p = place;
-                same("line " + p + " " + w, () -> x.line(p / 12, p % 12, w), () -> plain.line(p / 12, p % 12, w));
-            }
-            int told = plain.count(0);
-            for (int each = 0; each <= told && w < 4; each++) {
-                int k = each;
-                same("diagnostic " + k + " " + w, () -> x.diagnostic(k, w), () -> plain.diagnostic(k, w));
-            }
+    /** What is left of the calls goes on through all questions that there are, the first of them by the seed. */
+    private void askInOrder(int first) {
+        int all = 6 + 208 * 4 + 96 * 5 + 4 * (plain.count(0) + 1);
+        for (int k = first; calls < CALLS && Due.wrongCount() == 0; k++) {
+            askNumber(k % all);
+        }
+    }
+
+    private void askNumber(int number) {
+        int s = number - 6;
+        int l = s - 208 * 4;
+        int d = l - 96 * 5;
+        if (s < 0) {
+            same("count " + number, () -> x.count(number), () -> plain.count(number));
+        } else if (l < 0) {
+            same("symbol " + s, () -> x.symbol(s / 104, s / 4 % 26, s % 4), () -> plain.symbol(s / 104, s / 4 % 26, s % 4));
+        } else if (d < 0) {
+            same("line " + l, () -> x.line(l / 60, l / 5 % 12, l % 5), () -> plain.line(l / 60, l / 5 % 12, l % 5));
+        } else {
+            same("diagnostic " + d, () -> x.diagnostic(d / 4, d % 4), () -> plain.diagnostic(d / 4, d % 4));
         }
     }
 
     private void same(String name, Due.Call call, Due.Call plainCall) {
         int want = Due.answerOf(plainCall);
         int before = Due.wrongCount();
+        calls++;
         Due.due(name, want, call);
         if (before == 0) {
             story.append(name).append(" -> ").append(want).append('\n');

@@ -52,6 +52,8 @@ public final class FaceAndRoom {
         Constructor<?>[] constructors = CheckDaemon.class.getDeclaredConstructors();
         truth("one public constructor", constructors.length == 1 && constructors[0].getModifiers() == Modifier.PUBLIC
             && constructors[0].getParameterCount() == 0);
+        truth("extends and implements nothing", CheckDaemon.class.getSuperclass() == Object.class
+            && CheckDaemon.class.getInterfaces().length == 0);
         truth("public and final", CheckDaemon.class.getModifiers() == (Modifier.PUBLIC | Modifier.FINAL));
     }
 
@@ -93,29 +95,38 @@ public final class FaceAndRoom {
         }
     }
 
-    /** An element has a byte or more, so few bytes mean few elements, and fewer objects. */
-    private static void room() {
+    private static long allocated() {
         com.sun.management.ThreadMXBean threads = (com.sun.management.ThreadMXBean) ManagementFactory.getThreadMXBean();
+        return threads.getThreadAllocatedBytes(Thread.currentThread().getId());
+    }
+
+    private static void putDearly(CheckDaemon x, int puts) {
         String text = "A=A|B|C|D|E|F|G|H|I|J|K|L|M|N|O|P|Q|R|S|T|U|V|W|X|Y|Z|A|B|C|";
         int[][] numbers = {Due.packed(text.substring(0, 20)), Due.packed(text.substring(20, 40)), Due.packed(text.substring(40, 59) + " ")};
-        long before = threads.getThreadAllocatedBytes(Thread.currentThread().getId());
-        CheckDaemon x = new CheckDaemon();
-        for (int k = 0; k < 128; k++) {
+        for (int k = 0; k < puts; k++) {
             for (int[] n : numbers) {
                 x.type(n[0], n[1], n[2], n[3], n[4]);
             }
             x.put(k % 8, k % 12);
         }
-        long puts = threads.getThreadAllocatedBytes(Thread.currentThread().getId()) - before;
+    }
+
+    /** An element has a byte or more, so few bytes mean few elements, and fewer objects; each object here gets 512 calls. */
+    private static void room() {
+        long before = allocated();
+        putDearly(new CheckDaemon(), 128);
+        long puts = allocated() - before;
         truth("128 puts of long lines take " + puts + " bytes", puts < 1_000_000);
-        before = threads.getThreadAllocatedBytes(Thread.currentThread().getId());
-        for (int k = 0; k < 512; k++) {
+        CheckDaemon x = new CheckDaemon();
+        putDearly(x, 24);
+        before = allocated();
+        for (int k = 0; k < 104; k++) {
             x.symbol(0, 0, 3);
             x.diagnostic(k, 2);
-            x.count(0);
+            x.count(k % 6);
             x.line(0, k % 12, 4);
         }
-        long asks = threads.getThreadAllocatedBytes(Thread.currentThread().getId()) - before;
-        truth("questions take " + asks + " bytes", asks < 100_000);
+        long asks = allocated() - before;
+        truth("questions take " + asks + " bytes", asks < 20_000);
     }
 }
